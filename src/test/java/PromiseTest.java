@@ -211,6 +211,7 @@ public final class PromiseTest {
             refused("6 clock turned", x, NONE, () -> x.decode(x.encode(0x4C, 0) ^ clock, 0));
         }
         refused("6 behind another bit", x, NONE, () -> x.decode(x.encode(1, 0), 1));
+        refused("6 cells 0", x, NONE, () -> x.decode(0, 1));
         refused("6 cells -1", x, ARGUMENT, () -> x.decode(-1, 0));
         refused("6 cells 65536", x, ARGUMENT, () -> x.decode(65536, 0));
         refused("6 before -1", x, ARGUMENT, () -> x.decode(0, -1));
@@ -330,6 +331,12 @@ public final class PromiseTest {
         due("9 the first waits", 'b', () -> x.where(0));
         due("9 end", 2, () -> x.end(0));
         due("9 words on the platter", 2, () -> x.count('p'));
+        x.barrier();
+        for (int sector = 1; sector < 7; sector++) {
+            int s = sector;
+            due("9 value of " + s, s, () -> x.read(s));
+        }
+        due("9 value of the first", 101, () -> x.read(0));
     }
 
     private static void writeToFullZone() {
@@ -372,6 +379,8 @@ public final class PromiseTest {
         due("10 the first went first", 'p', () -> x.where(1));
         due("10 the second to its band", 'o', () -> x.where(0));
         due("10 none left", 0, x::buffered);
+        due("10 value of the first", 11, () -> x.read(1));
+        due("10 value of the second", 10, () -> x.read(0));
         x.write(2, 12);
         x.shock(true);
         refused("10 shaken", x, STATE, x::barrier);
@@ -859,6 +868,14 @@ public final class PromiseTest {
         z.idle(150);
         z.request(0);
         due("30 just too old", 45, () -> z.serve('n'));
+        due("30 the other", 0, () -> z.serve('n'));
+        z.request(45);
+        z.request(0);
+        due("30 old by its own coming", 0, () -> z.serve('n'));
+        z.request(59);
+        z.idle(999);
+        z.request(1);
+        due("30 the oldest one of two", 45, () -> z.serve('n'));
         serveLikeOnes();
     }
 
@@ -907,8 +924,17 @@ public final class PromiseTest {
         due("32 track 11", 44, () -> x.takes(59));
         x.idle(1);
         due("32 just gone by", 35, () -> x.takes(0));
-        x.idle(29);
+        x.idle(27);
+        due("32 just there", 12, () -> x.takes(5));
+        x.idle(1);
+        due("32 just too late", 41, () -> x.takes(5));
+        x.idle(1);
         due("32 a turn later", 6, () -> x.takes(0));
+        x.idle(4);
+        due("32 just there over four tracks", 18, () -> x.takes(20));
+        x.idle(1);
+        due("32 just too late over four tracks", 47, () -> x.takes(20));
+        x.idle(25);
         x.request(59);
         x.serve('f');
         due("32 back to track 0", 40, () -> x.takes(3));

@@ -184,7 +184,7 @@ public final class Shingletrack {
     public boolean bad(int band, int index) throws IndexOutOfBoundsException {
         checkIndex(band, BANDS);
         checkIndex(index, BAND_SIZE);
-        return platter.badPlaces.swapFlag(band * BAND_SIZE + index, true);
+        return platter.badPlaces.setFlag(band * BAND_SIZE + index);
     }
 
     /** Tells whether a place is mapped to a spare. */
@@ -211,7 +211,7 @@ public final class Shingletrack {
         }
         store.turn(sector, place, by);
         store.setWeak(sector, place, isWeak);
-        platter.harmedSectors.swapFlag(sector, true);
+        platter.harmedSectors.setFlag(sector);
         return Words.nibble(store.wordOf(sector), place);
     }
 
@@ -479,9 +479,10 @@ public final class Shingletrack {
             return at(index) != 0;
         }
 
-        boolean swapFlag(int index, boolean is) {
+        /** Sets a flag, and tells whether it was set. */
+        boolean setFlag(int index) {
             boolean was = isSet(index);
-            put(index, is ? 1 : 0);
+            put(index, 1);
             return was;
         }
 
@@ -1050,14 +1051,14 @@ public final class Shingletrack {
 
         private void mapIfBad(int sector) {
             if (badPlaces.isSet(sector) && sparesLeft() > 0) {
-                mappedPlaces.swapFlag(sector, true);
+                mappedPlaces.setFlag(sector);
             }
         }
 
         private void tellLost(int sector) {
             wordsLost++;
             if (!zone.has(sector)) {
-                lostSectors.put(sector, 1);
+                lostSectors.setFlag(sector);
             }
         }
     }

@@ -24,6 +24,8 @@ public final class FaceTest {
         noPrivateMethodBearsAPublicName();
         staticFieldsAreConstants();
         sourceKeepsToTheLibrary();
+        sizesAreKept();
+        methodsStayShort();
         Checks.finish("FaceTest");
     }
 
@@ -100,6 +102,38 @@ public final class FaceTest {
                         && allowed.contains(field.getType().getSimpleName());
                 Checks.same(field + " is a constant", "true",
                         String.valueOf(!Modifier.isStatic(modifiers) || isFine));
+            }
+        }
+    }
+
+    private static void sizesAreKept() {
+        Checks.same("at most twelve classes", "true", String.valueOf(allClasses().size() <= 12));
+        for (Class<?> type : allClasses()) {
+            int fields = 0;
+            for (Field field : type.getDeclaredFields()) {
+                fields += Modifier.isStatic(field.getModifiers()) ? 0 : 1;
+            }
+            Checks.same(type + " has at most twenty fields", "true", String.valueOf(fields <= 20));
+            for (Method method : type.getDeclaredMethods()) {
+                Checks.same(method + " takes at most seven", "true",
+                        String.valueOf(method.getParameterCount() <= 7));
+            }
+        }
+    }
+
+    // A method ends with the brace that stands as far in as its first line.
+    private static void methodsStayShort() throws Exception {
+        List<String> lines = Files.readAllLines(SOURCE, StandardCharsets.UTF_8);
+        for (int first = 0; first < lines.size(); first++) {
+            String line = lines.get(first);
+            String margin = line.substring(0, line.length() - line.stripLeading().length());
+            boolean isDeep = margin.length() == 4 || margin.length() == 8;
+            if (isDeep && line.endsWith(" {") && !line.contains(" class ")) {
+                int last = first;
+                while (!lines.get(last).equals(margin + "}")) {
+                    last++;
+                }
+                Checks.same("short: " + line.strip(), "true", String.valueOf(last - first < 60));
             }
         }
     }

@@ -68,43 +68,6 @@ public final class PromiseTest {
         Checks.refused(what, x, due, call);
     }
 
-    // ---- ways to a state ----
-
-    /** Sectors that went to the platter, each with 1000 more than its number as value. */
-    private static Shingletrack diskWith(int... sectors) {
-        Shingletrack x = new Shingletrack();
-        send(x, sectors);
-        return x;
-    }
-
-    private static void send(Shingletrack x, int... sectors) {
-        for (int sector : sectors) {
-            x.write(sector, 1000 + sector);
-            x.barrier();
-        }
-    }
-
-    private static int[] row(int first, int behind) {
-        int[] row = new int[behind - first];
-        for (int i = 0; i < row.length; i++) {
-            row[i] = first + i;
-        }
-        return row;
-    }
-
-    /** Harms so many places, from a first one on, that a word with three of them is lost. */
-    private static void harmPlaces(Shingletrack x, int sector, int first, int number) {
-        for (int i = 0; i < number; i++) {
-            x.harm(sector, (first + i) % 8, 1, false);
-        }
-    }
-
-    private static void lose(Shingletrack x, int sector) {
-        for (int place = 0; place < 5; place++) {
-            x.harm(sector, place, 0, true);
-        }
-    }
-
     // ---- 1 to 8: words, cells and the channel ----
 
     private static void newObject() {
@@ -235,23 +198,17 @@ public final class PromiseTest {
     private static void guess() {
         Shingletrack x = new Shingletrack();
         due("8 of none", 0, x::guess);
-        put(x, 10, 11, -8, 0);
+        Disks.sample(x, 10, 11, -8, 0);
         due("8 of four", 0b1101, x::guess);
         due("8 then of none", 0, x::guess);
-        put(x, 5);
+        Disks.sample(x, 5);
         due("8 the least of like ones", 0, x::guess);
-        put(x, 6);
+        Disks.sample(x, 6);
         due("8 nearer", 1, x::guess);
-        put(x, 5, 5, 5);
+        Disks.sample(x, 5, 5, 5);
         due("8 the least of three", 0, x::guess);
-        put(x, 10, 10, -10, -10, 10, 10, -10, -10, 0, 0, 10, 0);
+        Disks.sample(x, 10, 10, -10, -10, 10, 10, -10, -10, 0, 0, 10, 0);
         due("8 of twelve as told", 0b110011000010, x::guess);
-    }
-
-    private static void put(Shingletrack x, int... samples) {
-        for (int sample : samples) {
-            x.sample(sample);
-        }
     }
 
     private static void guessAgainstAll() {
@@ -340,14 +297,14 @@ public final class PromiseTest {
     }
 
     private static void writeToFullZone() {
-        Shingletrack x = diskWith(21, 22, 23, 24, 45, 46, 47, 48, 1, 2);
+        Shingletrack x = Disks.with(21, 22, 23, 24, 45, 46, 47, 48, 1, 2);
         due("9 zone is full", 10, x::plain);
-        send(x, 22);
+        Disks.send(x, 22);
         due("9 in place of its older one", 10, x::plain);
         due("9 without a cleaning", 0, () -> x.count('c'));
-        send(x, 40);
+        Disks.send(x, 40);
         due("9 the end of a band needs no room", 0, () -> x.count('c'));
-        send(x, 3);
+        Disks.send(x, 3);
         due("9 the lowest of the fullest is cleaned", 5, () -> x.end(1));
         due("9 its sectors left the zone", 7, x::plain);
         due("9 the other was not cleaned", 1, () -> x.end(2));
@@ -356,14 +313,14 @@ public final class PromiseTest {
         due("9 words written", 17, () -> x.count('p'));
         due("9 the cleaned value", 1022, () -> x.read(22));
 
-        Shingletrack y = diskWith(1, 2, 3, 4, 21, 22, 23, 41, 42, 43);
-        send(y, 5);
+        Shingletrack y = Disks.with(1, 2, 3, 4, 21, 22, 23, 41, 42, 43);
+        Disks.send(y, 5);
         due("9 looked at anew, it is at the end", 'o', () -> y.where(5));
         due("9 its band's end then", 6, () -> y.end(0));
         due("9 the zone then", 6, y::plain);
 
-        Shingletrack z = diskWith(3, 4);
-        send(z, row(0, 4));
+        Shingletrack z = Disks.with(3, 4);
+        Disks.send(z, Disks.row(0, 4));
         due("9 the older word in the zone is gone", 1, z::plain);
         due("9 now in its band", 'o', () -> z.where(3));
         due("9 the other stays", 'p', () -> z.where(4));
@@ -393,7 +350,7 @@ public final class PromiseTest {
     }
 
     private static void cut() {
-        Shingletrack x = diskWith(0, 7);
+        Shingletrack x = Disks.with(0, 7);
         due("11 empty", 0, x::cut);
         x.write(0, 1);
         x.write(7, 2);
@@ -409,7 +366,7 @@ public final class PromiseTest {
     }
 
     private static void read() {
-        Shingletrack x = diskWith(0);
+        Shingletrack x = Disks.with(0);
         due("12 from the band", 1000, () -> x.read(0));
         x.clean(0);
         x.write(0, 5);
@@ -420,15 +377,15 @@ public final class PromiseTest {
         refused("12 sector -1", x, INDEX, () -> x.read(-1));
         refused("12 sector 60", x, INDEX, () -> x.read(60));
         refused("12 never written", x, NONE, () -> x.read(1));
-        harmPlaces(x, 0, 2, 2);
+        Disks.harmPlaces(x, 0, 2, 2);
         due("12 mended", 5, () -> x.read(0));
         due("12 mended again, as it stays", 5, () -> x.read(0));
         due("12 places mended", 4, () -> x.count('m'));
     }
 
     private static void readLost() {
-        Shingletrack x = diskWith(0, 1);
-        lose(x, 0);
+        Shingletrack x = Disks.with(0, 1);
+        Disks.lose(x, 0);
         refused("12 lost", x, LOST, () -> x.read(0));
         due("12 not told yet", 'o', () -> x.where(0));
         x.shock(true);
@@ -443,19 +400,19 @@ public final class PromiseTest {
         due("12 waits in the buffer", 9, () -> x.read(0));
         x.cut();
         refused("12 lost again behind a cut", x, LOST, () -> x.read(0));
-        send(x, 0);
+        Disks.send(x, 0);
         due("12 newer word", 1000, () -> x.read(0));
         x.cut();
         due("12 no longer lost", 'p', () -> x.where(0));
 
-        Shingletrack y = diskWith(0);
-        send(y, 0);
-        lose(y, 0);
+        Shingletrack y = Disks.with(0);
+        Disks.send(y, 0);
+        Disks.lose(y, 0);
         refused("12 the newest word counts", y, LOST, () -> y.read(0));
     }
 
     private static void readWhileShaken() {
-        Shingletrack x = diskWith(0, 9);
+        Shingletrack x = Disks.with(0, 9);
         x.write(30, 3);
         x.shock(true);
         due("12 buffer while shaken", 3, () -> x.read(30));
@@ -472,10 +429,10 @@ public final class PromiseTest {
     }
 
     private static void where() {
-        Shingletrack x = diskWith(0, 1, 1, 5);
+        Shingletrack x = Disks.with(0, 1, 1, 5);
         x.write(6, 0);
         x.write(0, 0);
-        lose(x, 5);
+        Disks.lose(x, 5);
         due("13 in the buffer as well", 'b', () -> x.where(0));
         due("13 in the zone as well", 'p', () -> x.where(1));
         due("13 in the buffer alone", 'b', () -> x.where(6));
@@ -500,19 +457,19 @@ public final class PromiseTest {
     }
 
     private static void plain() {
-        Shingletrack x = diskWith(0, 3, 33);
+        Shingletrack x = Disks.with(0, 3, 33);
         due("15 two", 2, x::plain);
-        send(x, 33, 0);
+        Disks.send(x, 33, 0);
         due("15 three", 3, x::plain);
         x.clean(0);
         due("15 one left", 1, x::plain);
     }
 
     private static void end() {
-        Shingletrack x = diskWith(row(20, 40));
+        Shingletrack x = Disks.with(Disks.row(20, 40));
         due("16 full", 20, () -> x.end(1));
         due("16 empty", 0, () -> x.end(0));
-        send(x, 20);
+        Disks.send(x, 20);
         due("16 still full", 20, () -> x.end(1));
         due("16 sector to the zone", 'p', () -> x.where(20));
         refused("16 band -1", x, INDEX, () -> x.end(-1));
@@ -520,8 +477,8 @@ public final class PromiseTest {
     }
 
     private static void clean() {
-        Shingletrack x = diskWith(0, 1, 2, 1, 6, 26);
-        harmPlaces(x, 0, 0, 2);
+        Shingletrack x = Disks.with(0, 1, 2, 1, 6, 26);
+        Disks.harmPlaces(x, 0, 0, 2);
         x.harm(2, 4, 0, true);
         x.write(3, 3);
         due("17 end", 7, () -> x.clean(0));
@@ -545,14 +502,14 @@ public final class PromiseTest {
         x.heat(61);
         refused("17 too low", x, STATE, () -> x.clean(0));
 
-        Shingletrack y = diskWith(39);
+        Shingletrack y = Disks.with(39);
         due("17 up to the last place", 20, () -> y.clean(1));
     }
 
     private static void cleanLost() {
-        Shingletrack x = diskWith(0, 1, 2, 1);
-        lose(x, 0);
-        lose(x, 1);
+        Shingletrack x = Disks.with(0, 1, 2, 1);
+        Disks.lose(x, 0);
+        Disks.lose(x, 1);
         x.write(0, 55);
         x.clean(0);
         due("17 told lost, but in the buffer", 'b', () -> x.where(0));
@@ -570,10 +527,10 @@ public final class PromiseTest {
     }
 
     private static void wipe() {
-        Shingletrack x = diskWith(0, 1, 9, 29);
-        lose(x, 0);
+        Shingletrack x = Disks.with(0, 1, 9, 29);
+        Disks.lose(x, 0);
         x.scrub();
-        lose(x, 29);
+        Disks.lose(x, 29);
         x.write(40, 1);
         x.bad(0, 0);
         x.request(5);
@@ -596,11 +553,11 @@ public final class PromiseTest {
         due("18 requests stay", 5, () -> x.serve('f'));
         due("18 samples stay", 2, () -> x.sample(10));
         due("18 bad places stay", true, () -> x.bad(0, 0));
-        send(x, 0);
+        Disks.send(x, 0);
         due("18 goes to the band's first place", 'o', () -> x.where(0));
 
-        Shingletrack y = diskWith(0);
-        lose(y, 0);
+        Shingletrack y = Disks.with(0);
+        Disks.lose(y, 0);
         y.scrub();
         y.write(0, 8);
         due("18 has the buffer's value", 1, y::wipe);
@@ -617,7 +574,7 @@ public final class PromiseTest {
         refused("19 band 3", x, INDEX, () -> x.bad(3, 0));
         refused("19 index -1", x, INDEX, () -> x.bad(0, -1));
         refused("19 index 20", x, INDEX, () -> x.bad(0, 20));
-        send(x, row(0, 8));
+        Disks.send(x, Disks.row(0, 8));
         due("19 mended as it is read", 1007, () -> x.read(7));
         due("19 two places", 2, () -> x.count('m'));
         long word = x.word(1007);
@@ -626,10 +583,10 @@ public final class PromiseTest {
         due("19 other nibbles", (int) (word & 15), () -> x.harm(7, 0, 0, false));
         x.clean(0);
         due("19 as it is cleaned, too", (int) (word >> 28) ^ 15, () -> x.harm(7, 7, 0, false));
-        send(x, 7);
+        Disks.send(x, 7);
         due("19 not in the zone", (int) (word >> 28), () -> x.harm(7, 7, 0, false));
 
-        Shingletrack y = diskWith(0);
+        Shingletrack y = Disks.with(0);
         y.bad(0, 0);
         y.read(0);
         due("19 what was written ahead is whole", 0, () -> y.count('m'));
@@ -638,7 +595,7 @@ public final class PromiseTest {
     private static void isMapped() {
         Shingletrack x = new Shingletrack();
         x.bad(1, 0);
-        send(x, 20, 21);
+        Disks.send(x, 20, 21);
         due("20 not yet", false, () -> x.isMapped(1, 0));
         x.scrub();
         due("20 as it is scrubbed", true, () -> x.isMapped(1, 0));
@@ -663,7 +620,7 @@ public final class PromiseTest {
         for (int index = 0; index < 6; index++) {
             x.bad(0, index);
         }
-        send(x, row(0, 6));
+        Disks.send(x, Disks.row(0, 6));
         due("21 all", 5, x::spares);
         due("21 six mended", 6, x::scrub);
         due("21 none left", 0, x::spares);
@@ -675,7 +632,7 @@ public final class PromiseTest {
     }
 
     private static void harm() {
-        Shingletrack x = diskWith(0, 1, 1);
+        Shingletrack x = Disks.with(0, 1, 1);
         long word = x.word(1000);
         for (int place = 0; place < 8; place++) {
             int p = place;
@@ -685,10 +642,10 @@ public final class PromiseTest {
         }
         due("22 whole and not weak", 1000, () -> x.read(0));
         due("22 nothing mended", 0, () -> x.count('m'));
-        harmPlaces(x, 1, 0, 3);
+        Disks.harmPlaces(x, 1, 0, 3);
         refused("22 the zone's word", x, LOST, () -> x.read(1));
         x.write(0, 4);
-        harmPlaces(x, 0, 0, 3);
+        Disks.harmPlaces(x, 0, 0, 3);
         due("22 not the buffer's", 4, () -> x.read(0));
         x.write(59, 4);
         refused("22 in the buffer alone", x, LOST, () -> x.harm(59, 0, 0, false));
@@ -704,12 +661,12 @@ public final class PromiseTest {
     }
 
     private static void scrub() {
-        Shingletrack x = diskWith(0, 1, 2, 3, 9);
+        Shingletrack x = Disks.with(0, 1, 2, 3, 9);
         due("23 whole", 0, x::scrub);
-        harmPlaces(x, 0, 0, 2);
+        Disks.harmPlaces(x, 0, 0, 2);
         x.harm(1, 5, 0, true);
-        lose(x, 2);
-        harmPlaces(x, 9, 0, 2);
+        Disks.lose(x, 2);
+        Disks.harmPlaces(x, 9, 0, 2);
         due("23 one mended", 1, x::scrub);
         due("23 two places", 2, () -> x.count('m'));
         due("23 one written", 6, () -> x.count('p'));
@@ -717,11 +674,11 @@ public final class PromiseTest {
         due("23 counted", 1, () -> x.count('l'));
         due("23 the zone is not scrubbed", 1009, () -> x.read(9));
         due("23 its places are mended as read", 4, () -> x.count('m'));
-        harmPlaces(x, 1, 0, 2);
+        Disks.harmPlaces(x, 1, 0, 2);
         refused("23 whole but weak ones stay weak", x, LOST, () -> x.read(1));
         x.harm(3, 0, 1, true);
         x.scrub();
-        harmPlaces(x, 3, 1, 2);
+        Disks.harmPlaces(x, 3, 1, 2);
         due("23 a mended one has no weak places", 1003, () -> x.read(3));
         x.shock(true);
         refused("23 shaken", x, STATE, x::scrub);
@@ -733,42 +690,42 @@ public final class PromiseTest {
     }
 
     private static void scrubLostBelowZone() {
-        Shingletrack x = diskWith(0, 1);
-        lose(x, 0);
-        send(x, 0);
+        Shingletrack x = Disks.with(0, 1);
+        Disks.lose(x, 0);
+        Disks.send(x, 0);
         due("23 none mended", 0, x::scrub);
         due("23 counted in any case", 1, () -> x.count('l'));
         due("23 the zone has it", 1000, () -> x.read(0));
         due("23 not told again", 0, x::scrub);
         due("23 counted once", 1, () -> x.count('l'));
 
-        Shingletrack y = diskWith(row(0, 7));
+        Shingletrack y = Disks.with(Disks.row(0, 7));
         y.shake(true);
-        harmPlaces(y, 5, 0, 1);
+        Disks.harmPlaces(y, 5, 0, 1);
         y.scrub();
         y.read(0);
         due("23 harms nobody", 1, () -> y.count('m'));
 
-        Shingletrack z = diskWith(0);
+        Shingletrack z = Disks.with(0);
         z.bad(0, 0);
         z.scrub();
         due("23 a bad place with a whole word is not mapped", 5, z::spares);
-        lose(z, 0);
+        Disks.lose(z, 0);
         z.scrub();
         due("23 nor one with a lost word", 5, z::spares);
     }
 
     private static void shake() {
-        Shingletrack x = diskWith(row(0, 3));
+        Shingletrack x = Disks.with(Disks.row(0, 3));
         due("24 did not", false, () -> x.shake(true));
         due("24 did", true, () -> x.shake(true));
-        send(x, 3, 4, 5);
+        Disks.send(x, 3, 4, 5);
         long word = x.word(1000);
         due("24 five less, nibble 0", (int) (word & 15) ^ 1, () -> x.harm(0, 0, 0, false));
-        send(x, row(6, 14));
+        Disks.send(x, Disks.row(6, 14));
         long eighth = x.word(1008);
         due("24 nibble of index 8 by 8", (int) (eighth & 15) ^ 1, () -> x.harm(8, 0, 0, false));
-        send(x, 1);
+        Disks.send(x, 1);
         long first = x.word(1001);
         due("24 never in the zone", (int) (first >> 4 & 15), () -> x.harm(1, 1, 0, false));
         int mended = x.count('m');
@@ -779,15 +736,15 @@ public final class PromiseTest {
         x.clean(0);
         due("24 harms no longer", (int) (word & 15), () -> x.harm(0, 0, 0, false));
 
-        Shingletrack y = diskWith(row(20, 24));
+        Shingletrack y = Disks.with(Disks.row(20, 24));
         y.shake(true);
-        send(y, row(0, 5));
+        Disks.send(y, Disks.row(0, 5));
         y.read(20);
         due("24 not in another band", 0, () -> y.count('m'));
     }
 
     private static void shock() {
-        Shingletrack x = diskWith(0);
+        Shingletrack x = Disks.with(0);
         due("25 was none", false, () -> x.shock(true));
         due("25 was one", true, () -> x.shock(true));
         refused("25 while shaken", x, STATE, () -> x.read(0));
@@ -963,7 +920,7 @@ public final class PromiseTest {
     // ---- 36 to 40: counters and sums ----
 
     private static void count() {
-        Shingletrack x = diskWith(0, 1, 7);
+        Shingletrack x = Disks.with(0, 1, 7);
         for (char what = 0; what < 300; what++) {
             char w = what;
             if ("wrpmlc".indexOf(w) < 0) {
@@ -979,7 +936,7 @@ public final class PromiseTest {
         x.read(1);
         x.read(0);
         due("36 r", 2, () -> x.count('r'));
-        lose(x, 0);
+        Disks.lose(x, 0);
         refused("36 lost", x, LOST, () -> x.read(0));
         due("36 r of answers alone", 2, () -> x.count('r'));
         due("36 l not told yet", 0, () -> x.count('l'));
@@ -1001,7 +958,7 @@ public final class PromiseTest {
     private static void checksum() {
         Shingletrack x = new Shingletrack();
         due("37 at first", sumOf(x, new int[60]), x::checksum);
-        send(x, 0, 1, 21);
+        Disks.send(x, 0, 1, 21);
         x.write(59, 1);
         x.idle(77);
         x.harm(0, 7, 3, true);
@@ -1041,7 +998,7 @@ public final class PromiseTest {
         refused("38 none bad", x, NONE, x::mappedShare);
         x.bad(0, 0);
         due("38 none mapped", 0.0f, x::mappedShare);
-        send(x, 0);
+        Disks.send(x, 0);
         x.scrub();
         due("38 one of one", 1.0f, x::mappedShare);
         x.bad(1, 0);
@@ -1067,14 +1024,14 @@ public final class PromiseTest {
     }
 
     private static void isSound() {
-        Shingletrack x = diskWith(row(0, 12));
+        Shingletrack x = Disks.with(Disks.row(0, 12));
         x.shake(true);
         x.bad(0, 3);
-        send(x, 30, 31, 5, 19);
+        Disks.send(x, 30, 31, 5, 19);
         due("40 behind writing", true, x::isSound);
         x.clean(0);
         due("40 behind shaken cleaning", true, x::isSound);
-        harmPlaces(x, 4, 0, 3);
+        Disks.harmPlaces(x, 4, 0, 3);
         due("40 harmed", true, x::isSound);
         x.scrub();
         due("40 told lost", true, x::isSound);

@@ -410,6 +410,7 @@ public final class EdgesOfCleaningTest {
         x.serve('f');
         x.sample(10);
         x.shake(true);
+        x.shock(true);
         x.heat(33);
         int[] counts = new int[6];
         for (int i = 0; i < 6; i++) {
@@ -431,6 +432,7 @@ public final class EdgesOfCleaningTest {
         due("served", 0, () -> x.serve('f'));
         due("samples", 2, () -> x.sample(0));
         due("shaking", true, () -> x.shake(false));
+        due("the shock", true, () -> x.shock(false));
         due("heat", 33, () -> x.heat(20));
         Disks.send(x, 0, 1);
         word("the spare", x.word(1000), x, 0);

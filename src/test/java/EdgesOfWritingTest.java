@@ -33,6 +33,7 @@ public final class EdgesOfWritingTest {
         aBarrierSendsTheFirstOneFirst();
         aBarrierThroughAFullZone();
         aCutOfPower();
+        aCutLeavesTheRest();
         shakenByAShock();
         theHeadLowerThan2();
         Checks.finish("EdgesOfWritingTest");
@@ -445,6 +446,28 @@ public final class EdgesOfWritingTest {
         due("the zone's", 1005, () -> x.read(5));
         refused("the one told lost", x, LOST, () -> x.read(20));
         due("where that is", 'l', () -> x.where(20));
+    }
+
+    // It empties the buffer, and nothing else.
+    private static void aCutLeavesTheRest() {
+        Shingletrack x = Disks.with(0, 0, 9);
+        x.sample(10);
+        x.request(59);
+        x.idle(3);
+        x.bad(0, 0);
+        x.shake(true);
+        x.shock(true);
+        x.heat(31);
+        due("an empty buffer", 0, x::cut);
+        due("samples", 2, () -> x.sample(0));
+        due("requests", 2, () -> x.request(1));
+        due("time", 3, x::time);
+        due("bad places", true, () -> x.bad(0, 0));
+        due("shaking", true, () -> x.shake(false));
+        due("the shock", true, () -> x.shock(false));
+        due("heat", 31, () -> x.heat(20));
+        state("the platter", x, 1, 2, 0);
+        due("words", 3, () -> x.count('p'));
     }
 
     // ---- shocks and the height of the head ----

@@ -40,6 +40,11 @@ final class Checks {
         }
     }
 
+    /** What the word of a sector on the platter is, with no weak places then. */
+    static void word(String what, long due, Shingletrack disk, int sector) {
+        same(what, Long.toHexString(due), Long.toHexString(Disks.wordOf(disk, sector)));
+    }
+
     /** All that a disk tells without being changed. */
     static String stateOf(Shingletrack disk) {
         StringBuilder state = new StringBuilder();

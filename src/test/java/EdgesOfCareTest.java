@@ -51,10 +51,6 @@ public final class EdgesOfCareTest {
         Checks.refused(what, x, due, call);
     }
 
-    private static void word(String what, long due, Shingletrack x, int sector) {
-        Checks.same(what, Long.toHexString(due), Long.toHexString(Disks.wordOf(x, sector)));
-    }
-
     private static long sent(Shingletrack x, int sector) {
         return x.word(Disks.valueOf(sector));
     }
@@ -103,27 +99,27 @@ public final class EdgesOfCareTest {
                 int sector = first + index;
                 due("mended as read " + sector, Disks.valueOf(sector), () -> x.read(sector));
                 due("two places each", 2 * (index + 1), () -> x.count('m'));
-                word("place " + index, sent(x, sector) ^ turnedByBadPlace(index), x, sector);
+                Checks.word("place " + index, sent(x, sector) ^ turnedByBadPlace(index), x, sector);
             }
         }
         Shingletrack y = new Shingletrack();
         y.bad(0, 5);
         Disks.send(y, Disks.row(0, 6));
-        word("index 5 turns the places 5 and 0", y.word(1005) ^ 0xF0000FL, y, 5);
+        Checks.word("index 5 turns the places 5 and 0", y.word(1005) ^ 0xF0000FL, y, 5);
     }
 
     // "as a word is written there": neither ahead of that, nor in the places beside it
     private static void badAsAWordIsWrittenThere() {
         Shingletrack x = Disks.with(0, 1, 2);
         x.bad(0, 1);
-        word("a word that is there", sent(x, 1), x, 1);
+        Checks.word("a word that is there", sent(x, 1), x, 1);
         due("end", 3, () -> x.clean(0));
-        word("the one beside it", sent(x, 0), x, 0);
-        word("as it is cleaned", sent(x, 1) ^ turnedByBadPlace(1), x, 1);
-        word("the other beside it", sent(x, 2), x, 2);
+        Checks.word("the one beside it", sent(x, 0), x, 0);
+        Checks.word("as it is cleaned", sent(x, 1) ^ turnedByBadPlace(1), x, 1);
+        Checks.word("the other beside it", sent(x, 2), x, 2);
         due("cleaned again", 3, () -> x.clean(0));
         due("it is mended by that", 2, () -> x.count('m'));
-        word("and turned anew", sent(x, 1) ^ turnedByBadPlace(1), x, 1);
+        Checks.word("and turned anew", sent(x, 1) ^ turnedByBadPlace(1), x, 1);
         Disks.harmPlaces(x, 1, 6, 1);
         refused("one place more is too much", x, LOST, () -> x.read(1));
     }
@@ -133,8 +129,8 @@ public final class EdgesOfCareTest {
         x.bad(0, 0);
         x.bad(0, 7);
         Disks.send(x, 7, 0, 0);
-        word("the zone's at a bad place", sent(x, 7), x, 7);
-        word("the zone's of one in its band", sent(x, 0), x, 0);
+        Checks.word("the zone's at a bad place", sent(x, 7), x, 7);
+        Checks.word("the zone's of one in its band", sent(x, 0), x, 0);
         due("none is mended", 1007, () -> x.read(7));
         due("none", 0, () -> x.count('m'));
     }
@@ -183,15 +179,15 @@ public final class EdgesOfCareTest {
     private static void sparesAreGood() {
         Shingletrack x = badInARow(0, 1);
         x.scrub();
-        word("whole as it is scrubbed", sent(x, 0), x, 0);
+        Checks.word("whole as it is scrubbed", sent(x, 0), x, 0);
         x.clean(0);
-        word("whole as it is cleaned", sent(x, 0), x, 0);
+        Checks.word("whole as it is cleaned", sent(x, 0), x, 0);
         due("to make it bad again is nothing to the spare", true, () -> x.bad(0, 0));
         x.clean(0);
-        word("whole again", sent(x, 0), x, 0);
+        Checks.word("whole again", sent(x, 0), x, 0);
         x.wipe();
         Disks.send(x, 0);
-        word("whole behind a wipe", sent(x, 0), x, 0);
+        Checks.word("whole behind a wipe", sent(x, 0), x, 0);
         due("two places in all", 2, () -> x.count('m'));
     }
 
@@ -217,7 +213,7 @@ public final class EdgesOfCareTest {
             Disks.send(x, Disks.row(21 + shaken, 40));
             for (int index = 0; index < 20; index++) {
                 long by = index == shaken - 5 ? 1L << 4 * (index % 8) : 0;
-                word(shaken + " harms " + index, sent(x, 20 + index) ^ by, x, 20 + index);
+                Checks.word(shaken + " harms " + index, sent(x, 20 + index) ^ by, x, 20 + index);
             }
         }
     }
@@ -227,9 +223,9 @@ public final class EdgesOfCareTest {
         Shingletrack x = Disks.with(1, 6, 9);
         x.shake(true);
         x.clean(0);
-        word("5 less than 6", sent(x, 1) ^ 0x10, x, 1);
-        word("none harms it", sent(x, 6), x, 6);
-        word("none at 5 less", sent(x, 9), x, 9);
+        Checks.word("5 less than 6", sent(x, 1) ^ 0x10, x, 1);
+        Checks.word("none harms it", sent(x, 6), x, 6);
+        Checks.word("none at 5 less", sent(x, 9), x, 9);
         due("none is still none", '-', () -> x.where(4));
         refused("it has no word", x, LOST, () -> x.harm(4, 0, 0, false));
         Shingletrack y = Disks.with(Disks.row(0, 5));
@@ -248,7 +244,7 @@ public final class EdgesOfCareTest {
         for (int sector = 0; sector < 60; sector++) {
             int index = sector % 20;
             long by = index < 15 ? 1L << 4 * (index % 8) : 0;
-            word("in a row " + sector, sent(x, sector) ^ by, x, sector);
+            Checks.word("in a row " + sector, sent(x, sector) ^ by, x, sector);
         }
     }
 
@@ -262,7 +258,7 @@ public final class EdgesOfCareTest {
         }
         for (int sector = 0; sector < 20; sector++) {
             long by = sector < 15 ? 1L << 4 * (sector % 8) : 0;
-            word("cleaned " + sector, sent(x, sector) ^ by, x, sector);
+            Checks.word("cleaned " + sector, sent(x, sector) ^ by, x, sector);
         }
         x.clean(1);
         x.clean(2);
@@ -275,12 +271,12 @@ public final class EdgesOfCareTest {
         Disks.send(x, 0);
         x.shake(true);
         Disks.send(x, 9);
-        word("none is harmed as one comes to the zone", sent(x, 4), x, 4);
+        Checks.word("none is harmed as one comes to the zone", sent(x, 4), x, 4);
         Disks.send(x, 5);
-        word("the zone's word", sent(x, 0), x, 0);
+        Checks.word("the zone's word", sent(x, 0), x, 0);
         x.clean(0);
         x.shake(false);
-        word("written to the band and harmed there", sent(x, 0) ^ 1, x, 0);
+        Checks.word("written to the band and harmed there", sent(x, 0) ^ 1, x, 0);
         Shingletrack y = Disks.with(Disks.row(0, 5));
         Disks.send(y, 0);
         y.shake(true);
@@ -294,7 +290,7 @@ public final class EdgesOfCareTest {
         Shingletrack x = badInARow(0, 5);
         x.shake(true);
         Disks.send(x, 5);
-        word("turned by 15 and by 1", sent(x, 0) ^ 0xF00EL, x, 0);
+        Checks.word("turned by 15 and by 1", sent(x, 0) ^ 0xF00EL, x, 0);
         due("which can be mended", 1000, () -> x.read(0));
         due("sound", true, x::isSound);
     }
@@ -307,7 +303,7 @@ public final class EdgesOfCareTest {
         Disks.send(x, 1);
         Disks.harmPlaces(x, 1, 0, 2);
         due("one in the zone", 0, x::scrub);
-        word("which stays", sent(x, 1) ^ 0x11, x, 1);
+        Checks.word("which stays", sent(x, 1) ^ 0x11, x, 1);
         x.write(40, 1);
         due("one in the buffer", 0, x::scrub);
         due("no word is written", 1, () -> x.count('p'));
@@ -324,7 +320,7 @@ public final class EdgesOfCareTest {
         due("their words", 120, () -> x.count('p'));
         due("all whole again", 0, x::scrub);
         for (int sector : new int[] {0, 19, 20, 39, 40, 59}) {
-            word("written anew " + sector, sent(x, sector), x, sector);
+            Checks.word("written anew " + sector, sent(x, sector), x, sector);
         }
         due("the end stays", 20, () -> x.end(2));
     }
@@ -407,7 +403,7 @@ public final class EdgesOfCareTest {
         }
         due("fifteen", 15, x::scrub);
         for (int sector = 0; sector < 20; sector++) {
-            word("whole " + sector, sent(x, sector), x, sector);
+            Checks.word("whole " + sector, sent(x, sector), x, sector);
         }
     }
 
@@ -415,7 +411,7 @@ public final class EdgesOfCareTest {
     private static void mappedAheadOfThat() {
         Shingletrack x = badInARow(0, 1);
         due("mended", 1, x::scrub);
-        word("not turned", sent(x, 0), x, 0);
+        Checks.word("not turned", sent(x, 0), x, 0);
         due("so none is left to mend", 0, x::scrub);
 
         Shingletrack y = Disks.with(0, 1, 2);
@@ -434,8 +430,8 @@ public final class EdgesOfCareTest {
     private static void noSpareIsLeft() {
         Shingletrack x = badInARow(0, 6);
         x.scrub();
-        word("the fifth has the last spare", sent(x, 4), x, 4);
-        word("the sixth has none, and is turned", sent(x, 5) ^ turnedByBadPlace(5), x, 5);
+        Checks.word("the fifth has the last spare", sent(x, 4), x, 4);
+        Checks.word("the sixth has none, and is turned", sent(x, 5) ^ turnedByBadPlace(5), x, 5);
         due("mended each time", 1, x::scrub);
         due("never mapped", false, () -> x.isMapped(0, 5));
         due("none left", 0, x::spares);

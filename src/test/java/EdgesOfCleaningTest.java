@@ -41,10 +41,6 @@ public final class EdgesOfCleaningTest {
         Checks.refused(what, x, due, call);
     }
 
-    private static void word(String what, long due, Shingletrack x, int sector) {
-        Checks.same(what, Long.toHexString(due), Long.toHexString(Disks.wordOf(x, sector)));
-    }
-
     // ---- cleaning ----
 
     // "A band is written anew from its first place up to its old end"
@@ -137,10 +133,10 @@ public final class EdgesOfCleaningTest {
             x.harm(2, place, 15, true);
         }
         x.clean(0);
-        word("its own", x.word(1000), x, 0);
-        word("the zone's", x.word(1001), x, 1);
-        word("its own with four weak places", x.word(1002), x, 2);
-        word("behind the old end", x.word(1005), x, 5);
+        Checks.word("its own", x.word(1000), x, 0);
+        Checks.word("the zone's", x.word(1001), x, 1);
+        Checks.word("its own with four weak places", x.word(1002), x, 2);
+        Checks.word("behind the old end", x.word(1005), x, 5);
         due("nine places", 9, () -> x.count('m'));
     }
 
@@ -268,8 +264,8 @@ public final class EdgesOfCleaningTest {
             due("the zone's", 1001, () -> x.read(1));
             due("mended each time", mended, () -> x.count('m'));
         }
-        word("the band's stays", band, x, 0);
-        word("the zone's stays", zone, x, 1);
+        Checks.word("the band's stays", band, x, 0);
+        Checks.word("the zone's stays", zone, x, 1);
         due("none written", 3, () -> x.count('p'));
     }
 
@@ -286,7 +282,7 @@ public final class EdgesOfCleaningTest {
         due("where in the zone", 'p', () -> x.where(1));
         due("none told", 0, () -> x.count('l'));
         due("no read answered", 0, () -> x.count('r'));
-        word("the band's word stays", x.word(1000), x, 0);
+        Checks.word("the band's word stays", x.word(1000), x, 0);
         due("so it can be whole again", 1000, () -> x.read(0));
     }
 
@@ -435,8 +431,8 @@ public final class EdgesOfCleaningTest {
         due("the shock", true, () -> x.shock(false));
         due("heat", 33, () -> x.heat(20));
         Disks.send(x, 0, 1);
-        word("the spare", x.word(1000), x, 0);
-        word("the bad place", x.word(1001) ^ 0xF00F0L, x, 1);
+        Checks.word("the spare", x.word(1000), x, 0);
+        Checks.word("the bad place", x.word(1001) ^ 0xF00F0L, x, 1);
     }
 
     // "Returns how many sectors had a value, those told lost aside."
